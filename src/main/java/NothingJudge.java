@@ -983,6 +983,7 @@ public final class NothingJudge {
 
         final Scene scene;
         final long[] state = new long[MOST_CODE];
+        final int[] seenAt = new int[MOST_CODE];
         final int[] marks = new int[ALL_MARKS];
         final int[] used = new int[MOST_USES];
         final int[] tested = new int[MOST_TESTS];
@@ -991,6 +992,7 @@ public final class NothingJudge {
         boolean stale = true;
         boolean changed;
         int reached;
+        int version;
         long held;
         long now;
 
@@ -1012,7 +1014,9 @@ public final class NothingJudge {
                 changed = false;
                 openRoutines();
                 for (int pc = 0; pc < code.size && pc < state.length; pc++) {
-                    if (state[pc] != 0) {
+                    // An instruction tells nothing new till its state or a MARK that it may read grows.
+                    if (state[pc] != 0 && Rows.at(seenAt, pc) != version) {
+                        Rows.put(seenAt, pc, version);
                         advance(pc, state[pc]);
                     }
                 }
@@ -1034,7 +1038,9 @@ public final class NothingJudge {
             program = scene.program;
             code = program.code;
             reached = 0;
+            version = 1;
             Arrays.fill(state, 0);
+            Arrays.fill(seenAt, 0);
             Arrays.fill(marks, 0);
             Arrays.fill(used, 0);
             Arrays.fill(tested, 0);
@@ -1168,6 +1174,7 @@ public final class NothingJudge {
             int old = Rows.at(marks, mark);
             if ((old | coming) != old) {
                 Rows.put(marks, mark, old | coming);
+                version++;
                 changed = true;
             }
         }
@@ -1175,6 +1182,7 @@ public final class NothingJudge {
         private void join(int pc, long names) {
             if (pc >= 0 && pc < state.length && (state[pc] | names) != state[pc]) {
                 state[pc] |= names;
+                Rows.put(seenAt, pc, 0);
                 changed = true;
             }
         }
@@ -1488,27 +1496,45 @@ public final class NothingJudge {
             }
             facts.settle(0);
             findCandidates();
-            int all = (1 << found) - 1;
-            int guardPrice = Rows.at(prices, PRICE_GUARD);
-            // With more HELD no FACT grows: no set wants fewer guards than all of them.
-            facts.settle(marksOf(all));
-            int leastGuards = facts.guardsNeeded() * guardPrice;
-            cost = NONE;
-            for (int set = 0; set <= all; set++) {
-                int heldPrice = priceOf(set);
-                if (cost == NONE || heldPrice + leastGuards < cost) {
-                    facts.settle(marksOf(set));
-                    int needed = facts.guardsNeeded();
-                    int total = heldPrice + needed * guardPrice;
-                    if (cost == NONE || total < cost) {
-                        best = set;
-                        cost = total;
-                        guards = needed;
-                    }
-                }
+            best = 0;
+            guards = facts.guardsNeeded();
+            cost = guards * Rows.at(prices, PRICE_GUARD);
+            int set = (1 << found) - 1;
+            while (set > 0) {
+                facts.settle(marksOf(set));
+                int needed = facts.guardsNeeded();
+                consider(set, needed);
+                set = Math.min(set - 1, nextBelow(set, needed));
             }
             nameHeld();
             stale = false;
+        }
+
+        private void consider(int set, int needed) {
+            int total = priceOf(set) + needed * Rows.at(prices, PRICE_GUARD);
+            if (total < cost || total == cost && set < best) {
+                best = set;
+                cost = total;
+                guards = needed;
+            }
+        }
+
+        // With more HELD no FACT grows: where the first k are all in a set, no set that differs from it in
+        // these alone wants fewer guards. If the others are too dear even so, all such sets are passed over.
+        private int nextBelow(int set, int needed) {
+            for (int k = found; k > 0; k--) {
+                int firstOnes = (1 << k) - 1;
+                int others = set & ~firstOnes;
+                if ((set & firstOnes) == firstOnes && isTooDear(others, needed)) {
+                    return others - 1;
+                }
+            }
+            return set - 1;
+        }
+
+        private boolean isTooDear(int set, int needed) {
+            int least = priceOf(set) + needed * Rows.at(prices, PRICE_GUARD);
+            return least > cost || least == cost && set >= best;
         }
 
         private void findCandidates() {

@@ -137,6 +137,9 @@ public final class PromisesTest {
         due("no ENTRY", x.count(3), -1);
         due("no routine", x.entry(2), false);
         good(" \n", 0);
+        tape("A(){ab=c;}");
+        due("a word cut by the end", x.text(5), -1);
+        due("its place", x.fault(1), 5);
         String longest = "A(){" + times("a=b;", 298) + "}  ";
         due("length", longest.substring(0, 1197).length(), 1197);
         good(longest.substring(0, 1197), 1);
@@ -432,6 +435,10 @@ public final class PromisesTest {
         due("at B's", x.ran(1), 5);
         due("steps", x.ran(0), 10);
         due("things", x.ran(2), 2);
+        good("A(x){y=any;if any{y=x;}z=y.p;z=z.q;z=z.q;return z.p;}", 1);
+        due("both fields of any lead to itself", x.run(0, 1), 1);
+        due("things", x.ran(2), 1);
+        due("both fields of OUTER lead to itself", x.run(1, 2), 1);
         good("A(){x.p=y.q;}", 1);
         due("the VALUE first", x.run(0, 0), 2);
         due("at", x.ran(1), 1);
@@ -497,6 +504,10 @@ public final class PromisesTest {
         good("A(){a=any;b=any;if a is nothing{if b not nothing{c=c.p;}}if a not nothing{if a is nothing{c.q=c;}}}", 1);
         due("tries(0)", x.tries(0), 2);
         due("never reached", x.tries(1), -1);
+        good("A(){" + times("a.p=b;", 40) + "}", 1);
+        due("tries(0)", x.tries(0), 0);
+        due("tries(39)", x.tries(39), -1);
+        due("tries(40)", x.tries(40), -1);
         good("A(){while any{}while any{}b=b.p;}", 1);
         due("ahead of being SPENT", x.tries(0), 0);
         good("A(){while any{}while x is nothing{}b=b.p;}", 1);
@@ -550,6 +561,14 @@ public final class PromisesTest {
         due("both", x.mended(0), 2);
         due("first", x.mended(2), 10);
         due("second", x.mended(3), 11);
+        good("A(x){B(x);}B(x){C(x);}C(x){y=x.p;}", 3);
+        due("either of two would do", x.mend(), 3);
+        due("held", x.mended(0), 1);
+        due("the least number", x.mended(2), 10);
+        x.price(1, 2);
+        good("B(){a=A();a=a.p;return a;}A(){return any;}", 2);
+        due("the answer of A", x.mend(), 2);
+        due("its name", x.mended(2), 100);
         good("A(x){y=x.p;}", 1);
         due("OUTER is no CANDIDATE", x.mend(), 4);
         x.outer(0, 2);
