@@ -1,89 +1,39 @@
 /** For each promise of the document: ordinary calls, the edges that it names, and wrong ones. */
-public final class PromisesTest {
-    private static int wrong;
-    private static String promise = "";
-
-    private NothingJudge x = new NothingJudge();
-
+public final class PromisesTest extends Sheet {
     public static void main(String[] args) {
         PromisesTest tests = new PromisesTest();
-        tests.newObject();
-        tests.feeds();
-        tests.texts();
-        tests.faultTokens();
-        tests.faultTooMuch();
-        tests.faultToldAlready();
-        tests.faultCalls();
-        tests.entries();
-        tests.outers();
-        tests.marks();
-        tests.marksOfWays();
-        tests.uses();
-        tests.tests();
-        tests.runs();
-        tests.runLimits();
-        tests.trying();
-        tests.prices();
-        tests.mends();
-        tests.mendsWithFields();
-        tests.counts();
+        tests.check();
+        int wrong = tests.wrong();
         System.out.println(wrong == 0 ? "all promises hold" : wrong + " answers are not as due");
         System.exit(wrong == 0 ? 0 : 1);
     }
 
-    private void begin(String name) {
-        promise = name;
-        x = new NothingJudge();
-    }
-
-    private static void due(String call, int got, int want) {
-        if (got != want) {
-            wrong++;
-            System.out.println(promise + ": " + call + " answered " + got + ", due is " + want);
-        }
-    }
-
-    private static void due(String call, boolean got, boolean want) {
-        due(call, got ? 1 : 0, want ? 1 : 0);
-    }
-
-    private static int four(String text, int at) {
-        int number = 0;
-        for (int k = at; k < at + 4; k++) {
-            number = number << 8 | (k < text.length() ? text.charAt(k) & 255 : ' ');
-        }
-        return number;
-    }
-
-    private void tape(String text) {
-        for (int at = 0; at < text.length(); at += 20) {
-            x.feed(four(text, at), four(text, at + 4), four(text, at + 8), four(text, at + 12), four(text, at + 16));
-        }
-    }
-
-    private int read(String text) {
-        tape(text);
-        return x.text(text.length());
-    }
-
-    private void good(String text, int routines) {
-        due("text of " + text, read(text), routines);
-        due("fault(0) of " + text, x.fault(0), 0);
-        due("fault(1) of " + text, x.fault(1), -1);
-    }
-
-    private void bad(String text, int kind, int place) {
-        due("text of " + text, read(text), -1);
-        due("fault(0) of " + text, x.fault(0), kind);
-        due("fault(1) of " + text, x.fault(1), place);
-    }
-
-    private static String times(String part, int n) {
-        return part.repeat(n);
+    @Override
+    void check() {
+        newObject();
+        feeds();
+        texts();
+        faultTokens();
+        faultTooMuch();
+        faultToldAlready();
+        faultCalls();
+        entries();
+        outers();
+        marks();
+        marksOfWays();
+        uses();
+        tests();
+        runs();
+        runLimits();
+        trying();
+        prices();
+        mends();
+        mendsWithFields();
+        counts();
     }
 
     private void newObject() {
-        begin("1 a new object");
+        says("1 a new object");
         due("NONE", NothingJudge.NONE, -1);
         due("count(0)", x.count(0), 0);
         due("count(1)", x.count(1), 0);
@@ -102,7 +52,7 @@ public final class PromisesTest {
     }
 
     private void feeds() {
-        begin("2 feed");
+        says("2 feed");
         for (int k = 1; k <= 60; k++) {
             due("feed " + k, x.feed(0x20202020, 0x20202020, 0x20202020, 0x20202020, 0x20202020), 20 * k);
         }
@@ -116,7 +66,7 @@ public final class PromisesTest {
     }
 
     private void texts() {
-        begin("3 text");
+        says("3 text");
         tape("B(){}A(){}");
         due("text(-1)", x.text(-1), -2);
         due("text(21)", x.text(21), -2);
@@ -148,7 +98,7 @@ public final class PromisesTest {
     }
 
     private void faultTokens() {
-        begin("4 fault 1");
+        says("4 fault 1");
         bad("a(){}", 1, 0);
         bad("I(){}", 1, 0);
         bad("A", 1, 1);
@@ -203,7 +153,7 @@ public final class PromisesTest {
     }
 
     private void faultTooMuch() {
-        begin("4 fault 2");
+        says("4 fault 2");
         good("A(a,b,c,d){A(a,b,c,d);}", 1);
         bad("A(a,b,c,d,e){}", 2, 10);
         bad("A(a,b,c,d,a){}", 2, 10);
@@ -228,7 +178,7 @@ public final class PromisesTest {
     }
 
     private void faultToldAlready() {
-        begin("4 fault 3");
+        says("4 fault 3");
         bad("A(){}B(){}A(", 3, 10);
         bad("A(a,b,a){}", 3, 6);
         bad("A(a,a", 3, 4);
@@ -237,7 +187,7 @@ public final class PromisesTest {
     }
 
     private void faultCalls() {
-        begin("4 fault 4");
+        says("4 fault 4");
         bad("A(){a = B();}", 4, 8);
         bad("A(a){A(a);A();}", 4, 10);
         bad("A(){B(a);C();}B(){}", 4, 4);
@@ -248,7 +198,7 @@ public final class PromisesTest {
     }
 
     private void entries() {
-        begin("5 entry");
+        says("5 entry");
         good("A(a){b=a.p;}C(c,d){d.q=c;}", 2);
         x.outer(0, 2);
         due("entry(1)", x.entry(1), false);
@@ -269,7 +219,7 @@ public final class PromisesTest {
     }
 
     private void outers() {
-        begin("6 outer");
+        says("6 outer");
         good("A(a,b){c=a.p;c=b.q;}B(x){}", 2);
         due("outer(2, 1)", x.outer(2, 1), false);
         due("outer(-1, 1)", x.outer(-1, 1), false);
@@ -287,7 +237,7 @@ public final class PromisesTest {
     }
 
     private void marks() {
-        begin("7 mark");
+        says("7 mark");
         good("A(){a=any;B(a,b);} B(x,y){return x;} C(z){z.p=nothing;}", 3);
         due("mark(0, 1, 0)", x.mark(0, 1, 0), 3);
         due("mark(0, 1, 1)", x.mark(0, 1, 1), 1);
@@ -311,7 +261,7 @@ public final class PromisesTest {
     }
 
     private void marksOfWays() {
-        begin("7 mark, ways");
+        says("7 mark, ways");
         good("A(){if any{}while any{}}", 1);
         due("a TEST makes no THING", x.mark(2, 0, 0), 0);
         good("A(){return;a=any;}", 1);
@@ -339,7 +289,7 @@ public final class PromisesTest {
     }
 
     private void uses() {
-        begin("8 use");
+        says("8 use");
         good("A(x) {\n z = x.p; x.q = y.p; }C(){c.p=c;}", 2);
         due("doubtful", x.use(0, 0), 2);
         due("safe, but behind the VALUE's", x.use(1, 0), 0);
@@ -363,7 +313,7 @@ public final class PromisesTest {
     }
 
     private void tests() {
-        begin("9 test");
+        says("9 test");
         good("A(x){if x is nothing{while x not nothing{}}else{ if x is nothing{}if any{}}}B(){if x is nothing{}}", 2);
         due("open", x.test(0, 0), 0);
         due("never true", x.test(1, 0), 2);
@@ -389,7 +339,7 @@ public final class PromisesTest {
     }
 
     private void runs() {
-        begin("10 run, 11 ran");
+        says("10 run, 11 ran");
         due("ran(0) ahead of any", x.ran(0), -1);
         due("ran(1) ahead of any", x.ran(1), -1);
         due("ran(2) ahead of any", x.ran(2), -1);
@@ -450,7 +400,7 @@ public final class PromisesTest {
     }
 
     private void runLimits() {
-        begin("10 run, limits");
+        says("10 run, limits");
         good("A(){B();}B(){C();}C(){D();}D(){E();}E(){F();}F(){G();}G(){H(x);}H(x){if x is nothing{x=any;H(x);}}", 8);
         due("run(0, 0)", x.run(0, 0), 3);
         due("steps", x.ran(0), 25);
@@ -482,7 +432,7 @@ public final class PromisesTest {
     }
 
     private void trying() {
-        begin("12 tries");
+        says("12 tries");
         good("A(x,y){if any{if any{}else{a=any;b=a.p;}}x=y.q;z=z.p;}", 1);
         due("tries(0)", x.tries(0), 1);
         due("tries(1)", x.tries(1), 0);
@@ -515,7 +465,7 @@ public final class PromisesTest {
     }
 
     private void prices() {
-        begin("13 price");
+        says("13 price");
         due("price(0, 1)", x.price(0, 1), true);
         due("price(3, 99)", x.price(3, 99), true);
         due("price(3, 100)", x.price(3, 100), false);
@@ -530,7 +480,7 @@ public final class PromisesTest {
     }
 
     private void mends() {
-        begin("14 mend, 15 mended");
+        says("14 mend, 15 mended");
         due("mended(0)", x.mended(0), -1);
         due("mended(1)", x.mended(1), -1);
         due("mended(2)", x.mended(2), -1);
@@ -584,7 +534,7 @@ public final class PromisesTest {
     }
 
     private void mendsWithFields() {
-        begin("14 mend, fields");
+        says("14 mend, fields");
         good("A(){a=any;a.p=b;c=a.p;d=c.q;d=d.p;d=d.q;}", 1);
         due("uses", x.use(0, 0), 2);
         due("mend()", x.mend(), 9);
@@ -610,7 +560,7 @@ public final class PromisesTest {
     }
 
     private void counts() {
-        begin("16 count");
+        says("16 count");
         good("B(x){a=x.p;c=x.q;b.p=b;if any{}while any{}}A(){}H(){}", 3);
         due("routines", x.count(0), 3);
         due("USES", x.count(1), 3);
