@@ -336,6 +336,21 @@ final class MendSentences extends Sheet {
         count(4, 1);
         bad("B(", 1, 2);
         mend(4);
+        // What is HELD is HELD for mend() alone.
+        good("A(x){B(x);y=C();y.p=y;}B(y){a=y.p;if y is nothing{}}C(){if any{}return any;}", 3);
+        mendOf(5, 0, 10, 120);
+        mark(0, 1, 0, 3);
+        mend(5);
+        mark(1, 2, 0, 3);
+        mend(5);
+        uses(2, 2);
+        mend(5);
+        test(0, 0, 2);
+        mend(5);
+        count(4, 2);
+        mend(5);
+        tries(1, 0);
+        run(0, 0, 2);
         good("", 0);
         mend(NONE);
         price(3, 9, true);
