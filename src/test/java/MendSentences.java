@@ -70,6 +70,15 @@ final class MendSentences extends Sheet {
         good("A(){a=new n n;return B(a);}B(x){b=x.p;if b is nothing{x.p=x;}n.q=n;}", 2);
         fields(3, 1);
         mendOf(3, 0, 200);
+        // A MARK of 0 that comes to no NAME ends no way: n.p is reached behind a.p = a.q, and not behind b = a.q.
+        String lone = "c=a.q;if c is nothing{a.q=a;}";
+        x.price(2, 1);
+        good("A(){a=new n n;if any{" + lone + "}else{b=a.q;if b is nothing{n.p=n;}}}", 1);
+        fields(1, 3);
+        mendOf(1, 0, 201);
+        good("A(){a=new n n;if any{" + lone + "}else{a.p=a.q;n.p=n;}}", 1);
+        fields(3, 3);
+        mendOf(4, 1);
     }
 
     private void prices() {
